@@ -13,6 +13,7 @@ final class ChangeTest {
         undoBringsAllBack();
         undoKeepsSix();
         undoForgetsStepsTold();
+        undoBringsStepsToldBack();
         CHECK.end();
     }
 
@@ -169,9 +170,9 @@ final class ChangeTest {
     private static void undoForgetsStepsTold() {
         TapCascade x = Check.laid("v1010;s50,1000,1,1,0,0,0;");
         CHECK.due("tick(23)", x.tick(23), 23);
-        CHECK.due("tick(30)", x.tick(30), 30);
-        CHECK.step(x, 0, 52, 0, 2);
-        CHECK.due("count(4)", x.count(4), 52);
+        CHECK.due("tick(31)", x.tick(31), 31);
+        CHECK.step(x, 0, 53, 0, 1);
+        CHECK.due("count(4)", x.count(4), 53);
         CHECK.due("undo()", x.undo(), 1);
         CHECK.due("count(3)", x.count(3), 23);
         CHECK.due("count(4)", x.count(4), 22);
@@ -181,5 +182,20 @@ final class ChangeTest {
         CHECK.due("done(20, 0)", x.done(20, 0), TapCascade.NONE);
         CHECK.due("tick(1)", x.tick(1), 1);
         CHECK.due("count(4): the last way is as it was", x.count(4), 23);
+    }
+
+    /** Steps of another stage the other way stand where the told ones stood, till they are undone. */
+    private static void undoBringsStepsToldBack() {
+        TapCascade x = Check.laid("v1010;s50,1000,1,1,0,0,0;s50,985,99,1,0,0,0;");
+        CHECK.due("tick(20)", x.tick(20), 20);
+        CHECK.due("source(1200)", x.source(1200), 1010);
+        CHECK.due("tick(1)", x.tick(1), 2);
+        CHECK.step(x, 0, 20, 1, 2);
+        CHECK.step(x, 1, 20, 0, 2);
+        CHECK.step(x, 2, 19, 0, 1);
+        CHECK.due("undo()", x.undo(), 2);
+        for (int k = 0; k < 20; k++) {
+            CHECK.step(x, k, 19 - k, 0, k % 2 == 0 ? 1 : 2);
+        }
     }
 }

@@ -22,6 +22,9 @@ final class ModelTest {
         for (int run = 0; run < 1500; run++) {
             new ModelTest(check, run).go(run % 3);
         }
+        for (int run = 0; run < 20000; run++) {
+            new ModelTest(check, run).layAnew(new ModelTest(check, -run).spoiledText());
+        }
         check.end();
     }
 
@@ -63,6 +66,27 @@ final class ModelTest {
         }
         if (random.nextInt(10) == 0) {
             text.setCharAt(random.nextInt(text.length()), "0123456789;,-sv x".charAt(random.nextInt(17)));
+        }
+        return text.toString();
+    }
+
+    /** A few letters of a text put in, taken out or become others. */
+    private String spoiledText() {
+        StringBuilder text = new StringBuilder(randomText(random.nextBoolean()));
+        for (int k = between(0, 2); k >= 0 && text.length() > 0; k--) {
+            int place = random.nextInt(text.length());
+            char letter = "0123456789;,-sv x".charAt(random.nextInt(17));
+            switch (random.nextInt(3)) {
+                case 0:
+                    text.insert(place, letter);
+                    break;
+                case 1:
+                    text.deleteCharAt(place);
+                    break;
+                default:
+                    text.setCharAt(place, letter);
+                    break;
+            }
         }
         return text.toString();
     }

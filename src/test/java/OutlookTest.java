@@ -51,6 +51,11 @@ final class OutlookTest {
         // its count is 1 and the way not yet turned: that comes again in the round
         slow.tick(7);
         CHECK.settled(slow, NONE, 0, 6, 2);
+        // it wanted down and wants up now: taps and counts behind one tick are as now, what is wanted is not
+        TapCascade turned = Check.laid("v1010;s50,1000,1,2,0,0,0;");
+        turned.tick(1);
+        turned.source(960);
+        CHECK.settled(turned, NONE, 1, 4, 2);
     }
 
     private static void settlesWithin300() {
@@ -89,6 +94,11 @@ final class OutlookTest {
         CHECK.due("best(-1)", x.best(-1), 0);
         CHECK.due("best(0)", x.best(0), 1000);
         CHECK.due("best(1)", x.best(1), 1002);
+        // 40 are lost between them: 1000 and 960, by 50 more 1008
+        TapCascade lossy = Check.laid("v1000;s50,1000,1,1,0,0,8;s50,1008,1,1,0,50,0;");
+        CHECK.due("best(-1)", lossy.best(-1), 0);
+        CHECK.due("best(0)", lossy.best(0), 1000);
+        CHECK.due("best(1)", lossy.best(1), 1001);
         TapCascade ends = Check.laid("v800;s10,1200,1,1,0,0,0;");
         CHECK.due("best(-1)", ends.best(-1), 360);
         CHECK.due("best(0)", ends.best(0), 1005);
@@ -224,6 +234,18 @@ final class OutlookTest {
         CHECK.due("count(11)", x.count(11), 3);
         CHECK.due("tick(1)", x.tick(1), 1);
         CHECK.due("count(11): it is no longer told", x.count(11), 2);
+        // all four step each way: eight kinds
+        String wide = "s1,1000,1,1,0,0,0;";
+        TapCascade y = Check.laid("v900;" + wide + wide + wide + wide);
+        CHECK.due("tick(1) of four", y.tick(1), 4);
+        CHECK.due("count(11)", y.count(11), 4);
+        y.stick(0, 1);
+        y.source(1100);
+        CHECK.due("tick(1) of three", y.tick(1), 3);
+        CHECK.due("count(11)", y.count(11), 7);
+        y.stick(0, 0);
+        CHECK.due("tick(1) of four", y.tick(1), 4);
+        CHECK.due("count(11)", y.count(11), 8);
     }
 
     private static void countAsItStands() {

@@ -161,6 +161,10 @@ final class TextTest {
         CHECK.due("lay() of a long text", Check.written(full.toString()).lay(), 4);
         fault("v900;".repeat(40), TapCascade.NONE);
         fault("v900;".repeat(39) + "v900,", 195);
+        fault("v900;".repeat(39) + "v1000", 195);
+        fault("v900;".repeat(38) + "v0900;" + "v900", 196);
+        fault("v900;".repeat(39) + "s1,10", 195);
+        fault("v900;".repeat(39) + "v900;" + "v", TapCascade.NONE);
     }
 
     private static void layTakesTheText() {
