@@ -1,18 +1,24 @@
-/** Counts and prints the answers that are not as due; one object a test. */
+/** Counts and prints the answers that are not as due; one object a test file. */
 final class Check {
-    private final String test;
+    private final String file;
+    private String part = "";
     private int rows = 0;
     private int wrong = 0;
 
-    Check(String test) {
-        this.test = test;
+    Check(String file) {
+        this.file = file;
+    }
+
+    /** From here on the answers belong to this part of the file: a promise and the edge that is tried. */
+    void of(String promiseAndEdge) {
+        part = promiseAndEdge + ": ";
     }
 
     void due(String call, long got, long want) {
         rows++;
         if (got != want) {
             wrong++;
-            System.out.println(test + ": " + call + " answered " + got + ", due is " + want);
+            System.out.println(file + ": " + part + call + " answered " + got + ", due is " + want);
         }
     }
 
@@ -42,7 +48,7 @@ final class Check {
     }
 
     void end() {
-        System.out.println(test + ": " + rows + " answers, " + wrong + " not as due");
+        System.out.println(file + ": " + rows + " answers, " + wrong + " not as due");
         if (wrong != 0 || rows == 0) {
             System.exit(1);
         }
