@@ -151,7 +151,7 @@ public final class TapCascade {
         if (k < 0 || what < 0 || what > 2) {
             return BAD;
         }
-        return k < line.log.told() ? line.log.valueOf(k, what) : NONE;
+        return line.log.valueOf(k, what);
     }
 
     // ---- what comes, what is best

@@ -192,7 +192,10 @@ final class EdgesOfChangeTest {
         }
         TapCascade x = new TapCascade();
         CHECK.due("stick(0, 1)", x.stick(0, 1), 1);
+        CHECK.stage(x, 0, 8, 1);
+        CHECK.stage(x, 1, 8, 0);
         CHECK.due("stick(0, 0)", x.stick(0, 0), 0);
+        CHECK.stage(x, 0, 8, 0);
     }
 
     private static void stickIsSo() {

@@ -19,12 +19,14 @@ final class EdgesOfOutlookTest {
         settleQuietBehind300And301();
         settleRoundBehind300And301();
         settleShortestRound();
+        settleByWhatWasWanted();
         settleWhatCanNot();
         settleAt9999();
         settleChangesNothing();
         bestStages();
         bestAtTheEndsOfTheTap();
         bestOfSeveral();
+        bestByWhatIsLost();
         bestOfStuckOnes();
         bestIsNotByTapsAsTheyAre();
         ratioStages();
@@ -119,6 +121,19 @@ final class EdgesOfOutlookTest {
         CHECK.settled(Check.laid("v900;" + SWING), NONE, 2, 2, 2);
     }
 
+    private static void settleByWhatWasWanted() {
+        CHECK.of("13, all but what was wanted is as it was");
+        // it wanted down at a count of 1 and wants up now: behind one tick the count is 1 again, the way is not
+        TapCascade x = Check.laid("v1010;s50,1000,1,2,0,0,0;");
+        x.tick(1);
+        x.source(960);
+        CHECK.stage(x, 0, 7, 1000, 14, 1);
+        CHECK.settled(x, NONE, 1, 4, 2);
+        x.tick(1);
+        CHECK.stage(x, 0, 7, 1000, 14, 1);
+        CHECK.settled(x, NONE, 0, 4, 2);
+    }
+
     private static void settleWhatCanNot() {
         CHECK.of("13, quiet, though one wants what it can not");
         TapCascade stuck = Check.laid("v1010;" + SWING);
@@ -204,6 +219,13 @@ final class EdgesOfOutlookTest {
         best("v1000;s50,1000,1,1,0,0,0;s50,1025,1,1,0,0,0;", 25, 0, 0);
         // by the cut 800 and 800.8 are alike
         best("v800;s1,800,1,1,0,0,0;", 0, 0);
+    }
+
+    private static void bestByWhatIsLost() {
+        CHECK.of("14, by what is lost on the way, and what is more when power flows back");
+        // 1000 less 45 is 955, by 1.05 1002 and by 1.1 1050; 1000 and 45 are 1045, by 0.95 992 and by 0.9 940
+        best("v1000;s50,1000,1,1,0,0,9;s50,1002,1,1,0,50,0;", 0, 0, 1);
+        best("v1000;s50,1000,1,1,0,0,9;s50,940,1,1,0,-50,0;", 0, 0, -2);
     }
 
     private static void bestOfStuckOnes() {

@@ -33,6 +33,7 @@ final class EdgesOfTextTest {
         fifthStage();
         firstFaultOfSeveral();
         faultAtTheLastPlace();
+        whatWasWipedIsNotRead();
         faultChangesNothing();
         layOfNothing();
         layWithoutAStage();
@@ -330,6 +331,18 @@ final class EdgesOfTextTest {
         // the letter that is not taken is not read either
         fault(WHOLE + "x", NONE);
         fault(WHOLE.substring(0, 199) + ",;", 194);
+    }
+
+    private static void whatWasWipedIsNotRead() {
+        CHECK.of("4, letters that stood behind the end of a longer text");
+        for (int length = 0; length <= 23; length++) {
+            TapCascade x = Check.written("v900;" + STAGE);
+            x.wipe();
+            Check.write(x, ("v900;" + STAGE).substring(0, length));
+            boolean ends = length == 0 || length == 5 || length == 23;
+            CHECK.due("fault() of the first " + length, x.fault(), ends ? NONE : length < 5 ? 0 : 5);
+            CHECK.due("lay() of the first " + length, x.lay(), length == 23 ? 1 : NO);
+        }
     }
 
     private static void faultChangesNothing() {

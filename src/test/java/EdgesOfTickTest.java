@@ -26,6 +26,7 @@ final class EdgesOfTickTest {
         wantsNothing();
         passOnBehindTheLast();
         passOnIsNeverAhead();
+        passOnOverThoseThatWantNothing();
         passOnThroughAll();
         passOnByOneThatWasCalled();
         stageNumbers();
@@ -235,6 +236,22 @@ final class EdgesOfTickTest {
         CHECK.stage(x, 1, 14, 0);
         CHECK.due("tick(1)", x.tick(1), 1);
         CHECK.step(x, 0, 8, 0, 1);
+    }
+
+    private static void passOnOverThoseThatWantNothing() {
+        CHECK.of("9, over those that want nothing to the next that wants something");
+        String good = "s10,900,5,1,0,0,0;";
+        TapCascade x = Check.laid("v900;s10,1000,5,1,0,0,0;" + good + good + "s10,800,5,9,0,0,0;");
+        x.stick(0, 1);
+        CHECK.due("tick(1): the last one, the other way", x.tick(1), 1);
+        CHECK.step(x, 0, 0, 3, 2);
+        TapCascade y = Check.laid("v900;s10,1000,5,1,0,0,0;" + good + "s10,800,5,9,0,0,0;s10,1000,5,9,0,0,0;");
+        y.stick(0, 1);
+        CHECK.due("tick(1): not the one behind the next", y.tick(1), 1);
+        CHECK.step(y, 0, 0, 2, 2);
+        TapCascade none = Check.laid("v900;s10,1000,5,1,0,0,0;" + good.repeat(3));
+        none.stick(0, 1);
+        CHECK.due("tick(50): none wants anything", none.tick(50), 0);
     }
 
     private static void passOnThroughAll() {
