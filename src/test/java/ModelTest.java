@@ -32,7 +32,8 @@ final class ModelTest {
         if (kind != 0) {
             layAnew(randomText(kind == 2));
         }
-        while (calls < CALLS) {
+        // one turn asks twice at most
+        while (calls + 2 <= CALLS) {
             if (random.nextInt(4) == 0) {
                 change();
             } else {
