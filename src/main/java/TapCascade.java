@@ -682,6 +682,9 @@ public final class TapCascade {
 
     /** The taps by which a line is least off. */
     private static final class Search {
+        /** Each of four outs is some thousands from its target at most. */
+        static final int FARTHER_THAN_ANY = 1000000;
+
         final int[] taps = new int[MOST_STAGES];
         final int[] bestTaps = new int[MOST_STAGES];
         int leastOff;
@@ -690,7 +693,7 @@ public final class TapCascade {
         }
 
         void start(Line line) {
-            leastOff = Integer.MAX_VALUE;
+            leastOff = FARTHER_THAN_ANY;
             tryTaps(this, line, 0, line.source, 0);
         }
 

@@ -20,6 +20,7 @@ final class EdgesOfOutlookTest {
         settleRoundBehind300And301();
         settleShortestRound();
         settleByWhatWasWanted();
+        settleByTapsFarApart();
         settleWhatCanNot();
         settleAt9999();
         settleChangesNothing();
@@ -132,6 +133,23 @@ final class EdgesOfOutlookTest {
         x.tick(1);
         CHECK.stage(x, 0, 7, 1000, 14, 1);
         CHECK.settled(x, NONE, 0, 4, 2);
+    }
+
+    private static void settleByTapsFarApart() {
+        CHECK.of("13, all but one tap is as it was");
+        // the first is stuck and low for ever; its count and the other's go round alike while the other's tap goes from end to end
+        for (int wait = 1; wait <= 9; wait++) {
+            String stage = "s1,1200,1," + wait + ",0,0,0;";
+            TapCascade up = Check.laid("v800;" + stage + stage);
+            up.stick(0, 1);
+            up.tell(1, 1, 995);
+            CHECK.settled(up, 10 * wait, NONE, NONE, NONE);
+            String high = "s1,800,1," + wait + ",0,0,0;";
+            TapCascade down = Check.laid("v1200;" + high + high);
+            down.stick(0, 1);
+            down.tell(1, 1, 1005);
+            CHECK.settled(down, 10 * wait, NONE, NONE, NONE);
+        }
     }
 
     private static void settleWhatCanNot() {

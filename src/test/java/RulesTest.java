@@ -27,6 +27,10 @@ final class RulesTest {
         "Exact\\b", "\\bprotected\\b", "\\bvolatile\\b", "\\btransient\\b", "\\bnative\\b", "\\bObject\\b",
         "\\bstatic\\s*\\{", "while\\s*\\(\\s*true", "for\\s*\\(\\s*;", "[^\\x00-\\x7f]"};
 
+    /** What of the library LANGUAGE.md's fourth rule lists and this class uses; a name more is looked up there first. */
+    private static final Set<String> LIBRARY = Set.of("Math.min", "Math.max", "Math.abs", "Integer.bitCount", "System.arraycopy");
+    private static final int MOST_LINES_OF_A_METHOD = 60;
+
     public static void main(String[] args) throws IOException {
         face();
         classesInside();
@@ -93,6 +97,28 @@ final class RulesTest {
             Matcher m = Pattern.compile(forbidden).matcher(code);
             CHECK.holds("no " + forbidden, !m.find());
         }
+        library(code);
+        methodsAreShort(code);
+    }
+
+    private static void library(String code) {
+        Matcher m = Pattern.compile("\\b(Math|Integer|Long|System|Arrays|String|Character|Boolean|Short|Byte|Double|Float|List)\\.(\\w+)")
+                .matcher(code);
+        while (m.find()) {
+            CHECK.holds(m.group() + " is listed", LIBRARY.contains(m.group()));
+        }
+    }
+
+    /** A method's head and its last brace stand at the same indent, four or eight. */
+    private static void methodsAreShort(String code) {
+        Matcher m = Pattern.compile("(?m)^( {4}| {8})(\\S[^\\n=]*\\)) \\{\\n(?s:(.*?))^\\1\\}$").matcher(code);
+        int methods = 0;
+        while (m.find()) {
+            methods++;
+            long lines = m.group(3).lines().count() + 2;
+            CHECK.holds(m.group(2) + " is short: " + lines, lines <= MOST_LINES_OF_A_METHOD);
+        }
+        CHECK.holds("methods were found: " + methods, methods > FACE.length);
     }
 
     /** Whole runs of calls must fit the room: once warm, no call makes an object. */
